@@ -1,0 +1,88 @@
+import java.util.NoSuchElementException;
+
+/** What the tests share: comparing answers, naming exceptions, feeding a text. */
+final class Check {
+    private static int wrong;
+    private static int made;
+
+    private Check() {
+    }
+
+    interface Call {
+        long answer();
+    }
+
+    static void due(String call, long got, long want) {
+        made++;
+        if (got != want) {
+            wrong++;
+            System.out.println(call + " answered " + got + ", due is " + want);
+        }
+    }
+
+    static void due(String call, boolean got, boolean want) {
+        due(call, got ? 1 : 0, want ? 1 : 0);
+    }
+
+    static void noSuch(String call, Call made) {
+        thrown(call, made, NoSuchElementException.class);
+    }
+
+    static void illegal(String call, Call made) {
+        thrown(call, made, IllegalArgumentException.class);
+    }
+
+    private static void thrown(String call, Call tried, Class<?> want) {
+        made++;
+        String got;
+        try {
+            got = "answered " + tried.answer();
+        } catch (RuntimeException e) {
+            got = e.getClass() == want ? "" : "threw " + e.getClass();
+        }
+        if (!got.isEmpty()) {
+            wrong++;
+            System.out.println(call + " " + got + ", due is " + want);
+        }
+    }
+
+    /** The text on the tape, with blanks behind it up to whole twenties. */
+    static void feed(PoundsOver x, String text) {
+        byte[] bytes = new byte[(text.length() + 19) / 20 * 20];
+        java.util.Arrays.fill(bytes, (byte) ' ');
+        for (int i = 0; i < text.length(); i++) {
+            bytes[i] = (byte) text.charAt(i);
+        }
+        for (int i = 0; i < bytes.length; i += 20) {
+            x.feed(four(bytes, i), four(bytes, i + 4), four(bytes, i + 8), four(bytes, i + 12), four(bytes, i + 16));
+        }
+    }
+
+    static int four(byte[] bytes, int i) {
+        return (bytes[i] & 255) << 24 | (bytes[i + 1] & 255) << 16 | (bytes[i + 2] & 255) << 8 | bytes[i + 3] & 255;
+    }
+
+    /** A new object with a HALL that has no FAULT. */
+    static PoundsOver told(String text) {
+        PoundsOver x = new PoundsOver();
+        feed(x, text);
+        due("hall of " + text, x.hall(text.length()), 0);
+        return x;
+    }
+
+    /** The FAULT of a text and its place. */
+    static void fault(String text, int kind, int place) {
+        PoundsOver x = new PoundsOver();
+        feed(x, text);
+        due("hall of " + text, x.hall(text.length()), kind);
+        due("fault() of " + text, x.fault(), place);
+        due("count(10) of " + text, x.count(10), 1);
+    }
+
+    static void end() {
+        System.out.println(made + " answers looked at, " + wrong + " of them not as due");
+        if (wrong != 0 || made == 0) {
+            System.exit(1);
+        }
+    }
+}
