@@ -26,6 +26,7 @@ public final class PoundsOver {
     // At most 'or', 'and', a test, a sum and a product wait at each depth, and the number that comes last.
     private static final int MOST_PENDING = 5 * (MOST_DEPTH + 1) + 1;
     private static final int FEE_A_POUND = 10;
+    private static final int MOST_IN_POCKET = 2;
     private static final int MOST_PACKED = 8;
     private static final int MOST_SETS = 1 << MOST_THINGS;
 
@@ -563,7 +564,7 @@ public final class PoundsOver {
             return i >= 0 && i < end && i < bytes.length ? bytes[i] & 255 : NONE;
         }
 
-        /** Goes on to the next token; every token's end is sought from its first byte. */
+        /** Goes on to the next token: the longest row of letters or digits, or one byte. */
         void advance() {
             while (next < end && (byteAt(next) == ' ' || byteAt(next) == 10)) {
                 next++;
@@ -573,17 +574,22 @@ public final class PoundsOver {
             int first = byteAt(place);
             if (first == NONE) {
                 kind = TEXT_END;
-            } else if (isLetter(first)) {
+                return;
+            }
+            boolean letter = isLetter(first);
+            boolean digit = isDigit(first);
+            next++;
+            while (next < end && (letter && isLetter(byteAt(next)) || digit && isDigit(byteAt(next)))) {
+                next++;
+            }
+            if (letter) {
                 kind = WORD;
-                passRow('a', 'z');
                 word = findWord();
-            } else if (isDigit(first)) {
+            } else if (digit) {
                 kind = NUMBER;
-                passRow('0', '9');
                 number = findNumber();
             } else {
                 kind = isSign(first) ? first : NO_TOKEN;
-                next++;
             }
         }
 
@@ -600,21 +606,15 @@ public final class PoundsOver {
                 || sign == '*' || sign == '/' || sign == '<' || sign == '=';
         }
 
-        private void passRow(int first, int last) {
-            while (next < end && byteAt(next) >= first && byteAt(next) <= last) {
-                next++;
-            }
-        }
-
         private Word findWord() {
-            int length = next - place;
+            int letters = next - place;
             for (int i = 0; i < WORDS.length; i++) {
-                String letters = WORDS[i].letters;
+                String known = WORDS[i].letters;
                 int same = 0;
-                while (same < length && same < letters.length() && letters.charAt(same) == byteAt(place + same)) {
+                while (same < letters && same < known.length() && known.charAt(same) == byteAt(place + same)) {
                     same++;
                 }
-                if (same == length && same == letters.length()) {
+                if (same == letters && same == known.length()) {
                     return WORDS[i];
                 }
             }
@@ -771,7 +771,7 @@ public final class PoundsOver {
         boolean goesWith(int c, int bits) {
             return sumOf(bits, WEIGHT) <= cases.at(c, LIMIT)
                 && sumOf(bits, SIZE) <= cases.at(c, HOLDS)
-                && !(cases.at(c, BOARD) != 0 && hasKind(bits, SHARP));
+                && (cases.at(c, BOARD) == 0 || (bits & ofKind(SHARP)) == 0);
         }
     }
 
@@ -839,7 +839,12 @@ public final class PoundsOver {
         }
 
         private boolean readNumber(Table into, int row, int column, int least, int most) {
-            return isNumber(least, most) && takeNumber(into, row, column);
+            if (!isNumber(least, most)) {
+                return false;
+            }
+            into.set(row, column, tape.number);
+            tape.advance();
+            return true;
         }
 
         private boolean takeNumber(Table into, int row, int column) {
@@ -1194,11 +1199,13 @@ public final class PoundsOver {
             if (person < 0 || person >= hall.peopleTold) {
                 return false;
             }
+            int there = thingsAt(ON_PEOPLE + person);
             if (hall.things.at(thing, KIND) == COAT) {
-                return heatOn(person) + hall.things.at(thing, HEAT) <= hall.people.at(person, BEARS);
+                return hall.sumOf(there, HEAT) + hall.things.at(thing, HEAT) <= hall.people.at(person, BEARS);
             }
             int size = hall.things.at(thing, SIZE);
-            return size <= 2 && sizesOn(person) + size <= hall.people.at(person, POCKETS);
+            int sizes = hall.sumOf(there & ~hall.ofKind(COAT), SIZE) + size;
+            return size <= MOST_IN_POCKET && sizes <= hall.people.at(person, POCKETS);
         }
 
         void bring(int thing, int place) {

@@ -65,6 +65,10 @@ public final class CasesTest {
         PoundsOver more = Check.told("person 9 9 9;case 0 5 9 0;case 0 6 9 9;case 0 3 9 1;case 0 3 9 1;"
             + "thing 3 0 0 0 0;thing 3 0 0 0 0;thing 0 0 0 0 1;");
         Check.due("the least COSTS ahead of the fewest", more.opened(), 5);
+        PoundsOver sum = Check.told("person 9 9 9;case 0 3 9 0;case 0 6 9 2;case 0 3 9 0;case 0 3 9 1;" + "thing 3 0 0 0 0;".repeat(3));
+        Check.due("COSTS and how many aren't one sum", sum.opened(), 13);
+        PoundsOver zero = Check.told("person 9 9 9;case 0 6 9 9;case 0 5 9 1;case 0 6 9 1;thing 6 0 0 0 1;");
+        Check.due("the COST of CASE 0 counts", zero.opened(), 6);
         PoundsOver holds = Check.told("person 9 9 9;case 0 5 9 0;case 0 9 3 0;case 0 9 9 9 board;sharp 6 0 4 0 0;");
         Check.due("opened() with HOLDS and BOARD", holds.opened(), -1);
         PoundsOver swap = Check.told("person 9 9 9;case 0 10 9 1;case 0 12 4 1;thing 12 0 4 0 0;thing 10 0 4 0 1;");
@@ -101,6 +105,8 @@ public final class CasesTest {
         Check.noSuch("fate(2) of another CASE", () -> x.fate(2));
         Check.noSuch("fate(3)", () -> x.fate(3));
         Check.noSuch("fate(-1)", () -> x.fate(-1));
+        Check.noSuch("fate(32)", () -> x.fate(32));
+        Check.noSuch("fate(-32)", () -> x.fate(-32));
         Check.noSuch("cheap(2)", () -> x.cheap(2));
         Check.noSuch("cheap(-1)", () -> x.cheap(-1));
         Check.due("fate(0) stays", x.fate(0), 1);
@@ -135,6 +141,11 @@ public final class CasesTest {
         PoundsOver tie = Check.told("person 9 9 9;case 0 5 20 3;thing 7 0 2 20 0;");
         Check.due("paying is as dear as throwing", tie.cheap(0), 20);
         Check.due("it stays", tie.fate(0), 0);
+        PoundsOver twelve = Check.told("person 9 9 9;case 0 11 60 3;" + "thing 1 0 2 9 0;".repeat(11) + "thing 1 0 2 8 0;");
+        Check.due("cheap of twelve", twelve.cheap(0), 8);
+        for (int t = 0; t < 12; t++) {
+            Check.due("fate(" + t + ") of twelve", twelve.fate(t), t == 11 ? 1 : 0);
+        }
         PoundsOver empty = Check.told("person 9 9 9;case 0 5 20 3;case 0 9 9 9;thing 7 0 2 20 0;");
         Check.due("an empty CASE", empty.cheap(1), 0);
         Check.noSuch("fate(0)", () -> empty.fate(0));

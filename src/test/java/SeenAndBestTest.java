@@ -135,6 +135,9 @@ public final class SeenAndBestTest {
         x.shift(1, 20);
         Check.due("nothing is in a CASE", x.counter(1, 200, 0), 0);
         Check.due("all states GO", x.counter(1, 200, 1), 200);
+        PoundsOver one = Check.told("person 60 3 9;case 0 9 5 7;case 0 1 5 7;thing 2 0 0 0 0;");
+        Check.due("some SHIFTS of one THING", one.counter(1, 200, 0) > 50, true);
+        Check.due("some states of one THING", one.counter(1, 200, 1) > 50 && one.counter(1, 200, 1) < 150, true);
         PoundsOver bare = Check.told("person 60 3 9;case 0 9 5 7;");
         Check.due("no THINGS, no states", bare.counter(1, 200, 1), 0);
     }

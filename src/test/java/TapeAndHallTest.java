@@ -148,6 +148,12 @@ public final class TapeAndHallTest {
         Check.fault(CASE + "thing 1 0 0 0 1;", 3, 43);
         Check.fault(CASE + "thing 1 0 0 0 99999;", 2, 43);
         Check.fault("fee overs;", 3, 4);
+        Check.fault("fee z;", 3, 4);
+        Check.fault("fee a;", 3, 4);
+        Check.fault("fee overz;", 3, 4);
+        Check.fault("fee {;", 1, 4);
+        Check.fault("fee `;", 1, 4);
+        Check.fault("fee :;", 1, 4);
         Check.fault("fee 1+person;", 3, 6);
         Check.fault("fee and;", 3, 4);
         Check.fault("fee 1 and or;", 3, 10);
