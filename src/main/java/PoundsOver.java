@@ -1455,6 +1455,7 @@ public final class PoundsOver {
         /** Downwards, so that what is looked up below is still as it was without this place. */
         private void widen(int all) {
             for (int whole = all; whole > 0; whole--) {
+                // The bits of the whole, counted down: each part is less than the one ahead.
                 for (int part = whole; part > 0 && reached.at(whole) == 0; part = (part - 1) & whole) {
                     if (taken.at(part) != 0 && reached.at(whole ^ part) != 0) {
                         reached.set(whole, 1);
