@@ -4,6 +4,7 @@ import java.util.NoSuchElementException;
 final class Check {
     private static int wrong;
     private static int made;
+    private static String about = "";
 
     private Check() {
     }
@@ -12,11 +13,24 @@ final class Check {
         long answer();
     }
 
+    /** What stands ahead of each answer that is told not to be as due. */
+    static void about(String words) {
+        about = words;
+    }
+
+    static int made() {
+        return made;
+    }
+
+    static void failed(String what) {
+        wrong++;
+        System.out.println(about + what);
+    }
+
     static void due(String call, long got, long want) {
         made++;
         if (got != want) {
-            wrong++;
-            System.out.println(call + " answered " + got + ", due is " + want);
+            failed(call + " answered " + got + ", due is " + want);
         }
     }
 
@@ -41,8 +55,7 @@ final class Check {
             got = e.getClass() == want ? "" : "threw " + e.getClass();
         }
         if (!got.isEmpty()) {
-            wrong++;
-            System.out.println(call + " " + got + ", due is " + want);
+            failed(call + " " + got + ", due is " + want);
         }
     }
 
@@ -62,21 +75,32 @@ final class Check {
         return (bytes[i] & 255) << 24 | (bytes[i + 1] & 255) << 16 | (bytes[i + 2] & 255) << 8 | bytes[i + 3] & 255;
     }
 
+    /** What hall() answers to a text that is fed now. */
+    static int hall(PoundsOver x, String text) {
+        feed(x, text);
+        return x.hall(text.length());
+    }
+
     /** A new object with a HALL that has no FAULT. */
     static PoundsOver told(String text) {
         PoundsOver x = new PoundsOver();
-        feed(x, text);
-        due("hall of " + text, x.hall(text.length()), 0);
+        due("hall of " + text, hall(x, text), 0);
+        due("fault() of " + text, x.fault(), -1);
         return x;
     }
 
     /** The FAULT of a text and its place. */
     static void fault(String text, int kind, int place) {
         PoundsOver x = new PoundsOver();
-        feed(x, text);
-        due("hall of " + text, x.hall(text.length()), kind);
+        due("hall of " + text, hall(x, text), kind);
         due("fault() of " + text, x.fault(), place);
         due("count(10) of " + text, x.count(10), 1);
+    }
+
+    /** The FAULT of a text in which ^ stands ahead of the place where it is. */
+    static void fault(int kind, String marked) {
+        int place = marked.indexOf('^');
+        fault(marked.substring(0, place) + marked.substring(place + 1), kind, place);
     }
 
     static void end() {
