@@ -5,8 +5,26 @@ final class Check {
     private static int wrong;
     private static int made;
     private static String about = "";
+    private static final int MOST_SECONDS = 300;
+
+    // A call that doesn't end is a fault too: the test that makes it fails then.
+    static {
+        Thread guard = new Thread(Check::endTooLong);
+        guard.setDaemon(true);
+        guard.start();
+    }
 
     private Check() {
+    }
+
+    private static void endTooLong() {
+        try {
+            Thread.sleep(MOST_SECONDS * 1000L);
+        } catch (InterruptedException e) {
+            return;
+        }
+        System.out.println(about + "no end after " + MOST_SECONDS + " seconds");
+        Runtime.getRuntime().halt(1);
     }
 
     interface Call {

@@ -193,6 +193,15 @@ final class PackingEdges {
                 boolean coat = kind.equals("coat");
                 opened(kind + " on a PERSON", "person 9 9 9;case 0 5 9 1;" + kind + " 6 0 0 0 0" + (coat ? " 9;" : ";"), coat ? 1 : -1);
             }
+            for (int owner = 0; owner < 4; owner++) {
+                for (int bears = 0; bears < 4; bears++) {
+                    StringBuilder people = new StringBuilder();
+                    for (int p = 0; p < 4; p++) {
+                        people.append("person 9 9 ").append(p == bears ? 9 : 0).append(';');
+                    }
+                    opened(bears + " bears it, of " + owner, people + "case " + owner + " 5 9 1;coat 6 0 0 0 0 9;", owner == bears ? 1 : -1);
+                }
+            }
             // A coat of a CASE outside of the set stays there.
             opened("outside", "person 9 9 9;case 0 5 9 1;case 0 9 9 9;thing 6 0 0 0 0;coat 4 0 0 0 1 1;", 3);
             opened("outside", "person 9 9 9;case 0 5 9 1;case 0 9 9 9;thing 6 0 0 0 0;coat 4 0 0 0 0 1;thing 9 0 0 0 1;", -1);
@@ -339,6 +348,9 @@ final class PackingEdges {
             cheap("the first stays", "case 0 6 20 3;thing 6 0 2 5 0;thing 3 0 2 2 0;thing 3 0 0 3 0;fee 50;", 5, 0, 1, 1);
             cheap("nothing of no VALUE goes", "case 0 5 20 3;thing 0 0 2 0 0;thing 6 0 2 0 0;", 0, 0, 1);
             cheap("what is dearer to throw stays", "case 0 6 20 3;thing 6 0 2 4 0;thing 6 0 2 5 0;fee 50;", 4, 1, 0);
+            // To stay comes first, and what becomes of the second then doesn't matter.
+            cheap("stays, posted ahead of thrown, stays", "case 0 6 20 3;thing 6 0 2 4 0;thing 6 0 2 5 0;post 6 4;fee 50;", 4, 0, 2);
+            cheap("stays, thrown ahead of posted, stays", "case 0 6 20 3;thing 6 0 2 5 0;thing 6 0 2 4 0;post 6 4;fee 50;", 4, 0, 1);
             // The last one's fate counts least: thrown away at 3 and posted at 3 are alike.
             cheap("like ones", "case 0 0 20 3;thing 6 0 2 3 0;thing 6 0 2 4 0;post 6 3;fee 50;", 6, 1, 2);
             cheap("as dear as the FEE", "case 0 0 20 3;thing 6 0 2 3 0;thing 6 0 2 4 0;post 6 3;fee 6;", 6, 0, 0);

@@ -60,6 +60,20 @@ final class PlaceEdges {
                 }
             }
         });
+        Edge.of(9, "0 to 4 CASES, 10 to 13 on PEOPLE", () -> {
+            // What takes no room comes nowhere else either, also behind a HALL with more PEOPLE and CASES.
+            for (int people = 1; people <= 4; people++) {
+                for (int cases = 1; cases <= 5; cases++) {
+                    String text = "person 60 9 30;".repeat(people) + "case 0 20 20 7;".repeat(cases) + "food 0 0 0 0 0;coat 0 0 0 0 0 1;post 9 9;";
+                    PoundsOver x = Check.told(text);
+                    onlyThere(x, people, cases);
+                    Check.due("a greater HALL", Check.hall(x, FOUR + FIVE), 0);
+                    Check.due("an empty HALL", Check.hall(x, ""), 0);
+                    Check.due("the HALL again", Check.hall(x, text), 0);
+                    onlyThere(x, people, cases);
+                }
+            }
+        });
         Edge.of(9, "Whether a THING may come to a PLACE from where it is (not where it is already).", () -> {
             for (int from : new int[] {0, 1, 4, 10, 11, 13}) {
                 PoundsOver x = Check.told(FOUR + FIVE + "food 1 0 1 1 0;coat 1 0 1 1 0 9;post 9 9;");
@@ -72,6 +86,14 @@ final class PlaceEdges {
                 }
             }
         });
+    }
+
+    private static void onlyThere(PoundsOver x, int people, int cases) {
+        for (int place = -20; place <= 40; place++) {
+            boolean there = place > 0 && place < cases || place >= 10 && place < 10 + people || place == 20 || place == 21;
+            Check.due("may(0, " + place + ")", x.may(0, place), there || place == 22);
+            Check.due("may(1, " + place + ")", x.may(1, place), there);
+        }
     }
 
     private static void intoCases() {

@@ -207,6 +207,18 @@ final class ScaleEdges {
                     toWeigh("LIMIT " + limit, told(set, limit), 0, best, upper / by, lower / by);
                 }
             }
+            // What is elsewhere doesn't count, though it would tell as much.
+            for (int unsure = 0; unsure <= 9; unsure += 3) {
+                for (int weight = unsure; weight <= 12; weight += 4) {
+                    String elsewhere = "thing " + weight + " " + unsure + " 0 1 1;";
+                    PoundsOver x = Check.told(PERSON + "case 0 20 20 1;case 0 9 9 0;" + elsewhere + thing(10, 2) + elsewhere + thing(9, 3) + elsewhere);
+                    toWeigh("elsewhere " + weight + " by " + unsure, x, 0, 3, 3, 7);
+                    x.shift(0, 10);
+                    toWeigh("on a PERSON " + weight + " by " + unsure, x, 0, 3, 3, 7);
+                    PoundsOver never = Check.told(PERSON + "case 0 16 20 1;case 0 9 9 0;" + elsewhere + thing(4, 1).repeat(4));
+                    toWeigh("none tells, elsewhere " + weight, never, 0, 1, 0, 1);
+                }
+            }
             toWeigh("of like ones the least", told(new int[][] {{3, 0}, {4, 1}, {3, 1}}, 10), 0, 1, 1, 3);
             toWeigh("none tells, but it isn't known", told(new int[][] {{4, 1}, {4, 1}, {4, 1}, {4, 1}}, 16), 0, 0, 0, 1);
             toWeigh("the last one tells", told(new int[][] {{4, 0}, {4, 0}, {4, 1}}, 12), 0, 2, 1, 1);

@@ -102,6 +102,7 @@ final class TextEdges {
             Check.due("an empty hall", Check.hall(x, ""), 0);
             Check.due("count(0)", x.count(0), 0);
             Check.due("bill()", x.bill(), 0);
+            thirdHalls();
         });
         Edge.of(3, "0 (STATUS stays), or the FAULT (all else stays, but STATUS)", TextEdges::whatStays);
         Edge.of(3, "ACTS, what is SEEN, what is kept, the image are gone", () -> {
@@ -143,6 +144,67 @@ final class TextEdges {
             Check.due("count(10)", x.count(10), 1);
             Check.due("hall(0)", x.hall(0), 0);
         });
+    }
+
+    private static final String[] HALLS = {
+        PERSON.repeat(4) + "case 3 0 60 9 board;".repeat(5) + "coat 9 9 5 999 0 9;".repeat(12)
+            + "post 1 1;post 2 2;post 3 3;post 4 4;post 5 5;post 60 6;looks 10 999;fee not not over*(1+2*3)+board;",
+        "", PERSON, PERSON + "case 0 3 9 6;thing 5 2 1 1 0;", PERSON + "case 0 3 9 6;shirt 5 0 1 1 0;fee 7;",
+        PERSON + "case 0 3 9 6;food 4 0 1 1 0;food 0 0 0 0 0;post 9 9;looks 1 1;fee not 0;", PERSON + "case 0 3 9 6;glass 5 0 1 1 0;fee over+1-1+1;",
+    };
+
+    private static final String[] FAULTS = {"x", "fee", "looks 9", "post 5 5;post 6 6;looks 5 5;fee not 0;!",
+        PERSON.repeat(2) + "case 1 9 60 9 board;case 1 9 60 9;coat 9 9 9 9 0 9;coat 9 9 9 9 1 99;",
+        PERSON.repeat(3) + "case 1 9 60 9 board;case 1 9 60 9;coat 9 9 9 9 0 9;sharp 9 9 9 9 0;", "fee 1+(not 0+7*(1+2*not 3;"};
+
+    /** What is told, with two texts ahead of it on the same object, is as on a new object. */
+    private static void thirdHalls() {
+        for (String third : HALLS) {
+            java.util.List<Integer> alone = allOf(Check.told(third));
+            for (String first : HALLS) {
+                for (String second : HALLS) {
+                    PoundsOver x = Check.told(first);
+                    throwAllAway(x);
+                    Check.due("hall of " + second, Check.hall(x, second), 0);
+                    throwAllAway(x);
+                    Check.due("hall of " + third, Check.hall(x, third), 0);
+                    Check.due(third + " is as it is alone", allOf(x).equals(alone), true);
+                }
+                for (String second : FAULTS) {
+                    PoundsOver x = Check.told(first);
+                    Check.due("hall of " + second, Check.hall(x, second) > 0, true);
+                    Check.due(first + " stays", allOf(x).equals(allOf(Check.told(first))), true);
+                    Check.due("hall of " + third, Check.hall(x, third), 0);
+                    Check.due(third + " is as it is alone", allOf(x).equals(alone), true);
+                }
+            }
+        }
+    }
+
+    /** And all that is reckoned ahead of that is reckoned once. */
+    private static void throwAllAway(PoundsOver x) {
+        allOf(x);
+        for (int t = 0; t < x.count(2); t++) {
+            x.shift(t, 20);
+        }
+    }
+
+    private static java.util.List<Integer> allOf(PoundsOver x) {
+        java.util.List<Integer> all = new java.util.ArrayList<>();
+        for (int what = 0; what < 10; what++) {
+            all.add(x.count(what));
+        }
+        for (int i = 0; i < 6 * x.count(0); i++) {
+            all.add(x.person(i / 6, i % 6));
+        }
+        for (int i = 0; i < 10 * x.count(1); i++) {
+            all.add(x.box(i / 10, i % 10));
+        }
+        for (int i = 0; i < 8 * x.count(2); i++) {
+            all.add(x.thing(i / 8, i % 8));
+        }
+        all.addAll(java.util.List.of(x.bill(), x.lawful(), x.opened(), x.safe(), x.share(), x.fits(0), x.best(0), x.best(1), x.best(2)));
+        return all;
     }
 
     private static void whatStays() {
@@ -236,6 +298,37 @@ final class TextEdges {
         Check.due(name + ", its place", x.fault(), place);
     }
 
+    private static final String[] LINES = {"person 80 3 9;", "case 0 20 60 7;", "thing 5 1 2 3 0;", "coat 5 1 2 3 0 9;", "sharp 5 1 2 3 0;",
+        "glass 5 1 2 3 0;", "food 5 1 2 3 0;", "shirt 5 1 2 3 0;", "post 9 9;", "looks 9 9;", "fee 9;"};
+
+    /** Each word with one of its letters another one, one letter less, or one more, isn't that word. */
+    private static void everyLetter() {
+        for (String line : LINES) {
+            int length = line.indexOf(' ');
+            Check.told(CASE + line);
+            for (int i = 0; i < length; i++) {
+                Check.fault(1, CASE + "^" + line.substring(0, i) + 'q' + line.substring(i + 1));
+                Check.fault(1, CASE + "^" + line.substring(0, i) + line.substring(i + 1));
+                Check.fault(1, CASE + "^" + line.substring(0, i) + 'q' + line.substring(i));
+            }
+        }
+        for (String value : Model.VALUES) {
+            for (int i = 0; i < value.length(); i++) {
+                Check.fault(3, "fee ^" + value.substring(0, i) + 'q' + value.substring(i + 1) + ";");
+                Check.fault(3, "fee ^" + value.substring(0, i) + 'q' + value.substring(i) + ";");
+                Check.fault(3, "fee (^" + value.substring(0, i) + value.substring(i + 1) + "x);");
+            }
+        }
+        for (String word : new String[] {"or", "and"}) {
+            for (int i = 0; i < word.length(); i++) {
+                Check.fault(1, "fee 1 ^" + word.substring(0, i) + 'q' + word.substring(i + 1) + " 1;");
+            }
+        }
+        Check.fault(3, "fee ^qot 1;");
+        Check.fault(3, "fee ^nqt 1;");
+        Check.fault(3, "fee ^noq 1;");
+    }
+
     private static void bytes() {
         Edge.of(3, "A TEXT of at most 700 bytes tells it", () -> {
             String fits = PERSON + "case 0 0 9 9;thing 1 0 1 1 0;";
@@ -261,6 +354,7 @@ final class TextEdges {
             Check.fault(1, "^perso 1 1 1;");
             Check.fault(1, "^per son 1 1 1;");
             Check.fault(1, "^personperson 1 1 1;");
+            everyLetter();
             Check.fault(3, "fee ^overover;");
             Check.fault(3, "fee ^ove;");
             Check.fault(1, "fee over^R;");
@@ -811,8 +905,10 @@ final class TextEdges {
             gives("not(1+(2*(3<(4 and(not 1)))))", 0);
             Check.fault(2, "fee not(1+(2*(3<(4 and(5 or(^not 1)))))));");
             Check.fault(2, "fee (((((1)))))+((((((^1))))));");
-            gives("0 or 1 and 0=1+1*(0 or 1 and 3=1+1*(0 or 1 and 2=1+1*(0 or 1 and 1=1+1*(0 or 1 and 0=1*(5-5)))))", 0);
             gives("0 or 1 and 9-7+2*(0 or 1 and 9-7+2*(0 or 1 and 9-7+2*(0 or 1 and 9-7+2*(0 or 1 and 9-7+2*(over)=8)=4)=4)=4)=4", 1);
+            // As much as can wait for its right side, at each depth, up to the last NUMBER.
+            gives("0 or 1 and 3=1+2*(0 or 1 and 3=1+2*(0 or 1 and 3=1+2*(0 or 1 and 3=1+2*(0 or 1 and 3=1+2*(0 or 1 and 7=1+2*3)))))", 1);
+            gives("0 or 1 and 3=1+2*(0 or 1 and 3=1+2*(0 or 1 and 3=1+2*(0 or 1 and 3=1+2*(0 or 1 and 3=1+2*(0 or 1 and 7=1+2*4)))))", 0);
         });
         Edge.of(3, "the seventh 'not' side by side", () -> {
             for (int n = 0; n <= 6; n++) {
